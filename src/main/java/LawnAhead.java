@@ -1506,7 +1506,7 @@ public final class LawnAhead {
         // Of the MOVES from each one on: the CELLS that they may take, and how many of them GROW.
         private final int[] taken = new int[Game.MOST_MOVES + 1];
         private final int[] grown = new int[Game.MOST_MOVES + 1];
-        private Game game;
+        private Game game = new Game();
         private int aim;
         private int sought;
         int found;
