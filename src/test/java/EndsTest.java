@@ -61,6 +61,12 @@ public final class EndsTest {
         x = Check.lawn("sw2h2q3;tc0;tc1;tc2");
         CHECK.due("corner", x.sumOf(0), 3);
         CHECK.due("its middle wins", x.winning(), 1);
+        x = Check.lawn("tc0;tc1");
+        CHECK.due("two by shears of two", x.sumOf(0), 2);
+        Check.tell(x, 0, "sk1;tc0;tc1");
+        CHECK.due("the same by another lawn's shears", x.sumOf(0), 0);
+        Check.tell(x, 0, "sw1;tc0;tc1");
+        CHECK.due("the same in a column", x.sumOf(0), 2);
     }
 
     private static LawnAhead grown(String lawn, int... cells) {
