@@ -43,14 +43,8 @@ public final class TextsTest {
         CHECK.due("ten more", x.feed(0x61616161, 0x61616161, 0x61610000, 0, 0), 240);
     }
 
-    private static void faults(int sort, Object... rows) {
-        for (int i = 0; i < rows.length; i += 2) {
-            CHECK.due("fault(" + sort + ") of '" + rows[i] + "'", Check.faultOf(sort, (String) rows[i]), (Integer) rows[i + 1]);
-        }
-    }
-
     private static void lawnFaults() {
-        faults(0, "s", -1, " ", 1, "s w5h4q3k2l0u8x0 ;t", -1, "t;s", -1, "b", -1, "sw05", -1, "sw005", 4, "sw77", 3,
+        CHECK.faults(0, "s", -1, " ", 1, "s w5h4q3k2l0u8x0 ;t", -1, "t;s", -1, "b", -1, "sw05", -1, "sw005", 4, "sw77", 3,
             "sw777", 4, "sw7 7", 2, "sw5 5", 4, "sw", 2, "sw;", 2, "swh", 2, "s5", 1, "sw5w5", 3, "sw5h4w5", 5, "s;s", 2,
             "t;s;t", 5, "s;;t", 2, "s;", 2, "s; ", 3, ";s", 0, "S", 0, "sx1", -1, "sx2", 2, "sq2", -1, "sk0", 2, "sk5", -1,
             "sk6", 2, "sl8u8", -1, "su3l3", -1, "su3l4", 5, "tc29", 4, "sw6h5;tc29", -1, "tc29;sw6h5", -1, "tc30", 3,
@@ -68,7 +62,7 @@ public final class TextsTest {
     }
 
     private static void lawFaults() {
-        faults(1, "y:1", -1, "y", 1, "y:", 2, "", 0, "x:1", 0, "y 1", 2, " y : 1 ", -1, "y:1;", 4, "y:1;y:2", -1, "y:1;z", 4,
+        CHECK.faults(1, "y:1", -1, "y", 1, "y:", 2, "", 0, "x:1", 0, "y 1", 2, " y : 1 ", -1, "y:1;", 4, "y:1;y:2", -1, "y:1;z", 4,
             "y:t", -1, "y:trc", 3, "y:o+d-b*c/r", -1, "y:q", 2, "y:-1", 2, "y:1+", 4, "y:1+-", 4, "y:9999", -1, "y:99999", 6,
             "y:99 99", 5, "y:[t]", -1, "y:[t", 4, "y:[t)", 4, "y:t]", 3, "y:(t)", 4, "y:(t>1)", 7, "y:(t>1)?1", -1,
             "y:t>1?1", -1, "y:t>1", 5, "y:t>1;", 5, "y:t?1", 3, "y:t>1?1?1", 7, "y:t>1>1?1", 5, "y:t>1&t<3|t=5?1", -1,
@@ -79,7 +73,7 @@ public final class TextsTest {
     }
 
     private static void gameFaults() {
-        faults(2, "", 0, "g0", -1, "g29", -1, "g30", 2, "g029", 3, "g300", 3, "g?", -1, "g ? ", -1, "g??", 2, "g1?", 2, "m?", 1,
+        CHECK.faults(2, "", 0, "g0", -1, "g29", -1, "g30", 2, "g029", 3, "g300", 3, "g?", -1, "g ? ", -1, "g??", 2, "g1?", 2, "m?", 1,
             "c?", 1, "m29", -1, "m30", 2, "m", 1, "c0r1", -1, "c29d5", -1, "c0x1", 2, "c0r", 3, "c0r0", 3, "c0r6", 3, "c0r66", 3,
             "c0r12", 4, "c0r1 2", 5, "c 0 d 5 ; x", -1, "c30r1", 2, "c0r1r1", 4, "x;", 2, "x;;", 2, "x1", 1, "s", 0, "g1 ;m2;x;c3d4", -1);
         CHECK.due("16 moves", Check.faultOf(2, "x" + ";x".repeat(15)), -1);
