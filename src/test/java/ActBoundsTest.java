@@ -432,6 +432,16 @@ public final class ActBoundsTest {
         logIs(x, 2, 0, 2, 0, 0);
         logIs(x, 0, 0, 5, 0, 0);
         CHECK.due("no cell any more", x.run(0), 0);
+        LawnAhead first = Check.lawn("sw6h5");
+        Check.tell(first, 2, "g?");
+        first.perform(0);
+        logIs(first, 0, 0, 0, 0, 0);
+        LawnAhead last = Check.lawn("sw6h5");
+        Check.tell(last, 1, "y:r=4&c=5?1");
+        last.law(0);
+        Check.tell(last, 2, "g?");
+        last.perform(0);
+        logIs(last, 0, 0, 29, 0, 0);
     }
 
     /** "MEANT WELL: how often it GREW so far .. without having WON by it, though there was a THREAT just then." */
@@ -449,6 +459,12 @@ public final class ActBoundsTest {
         CHECK.due("no threat now", x.threats(), 0);
         x.grow(5);
         CHECK.due("not without a threat", x.meant(), 5);
+        LawnAhead ends = Check.lawn("sw6h5;tc1;tc2;bc3");
+        ends.grow(20);
+        CHECK.due("a threat at the first cell alone", ends.meant(), 1);
+        LawnAhead other = Check.lawn("sw6h5;tc27;tc28;bc26");
+        other.grow(0);
+        CHECK.due("a threat at the last cell alone", other.meant(), 1);
         LawnAhead y = Check.lawn("sw4h1;tc0;tc1");
         y.image();
         y.games(1, 3);

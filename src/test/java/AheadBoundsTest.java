@@ -91,6 +91,9 @@ public final class AheadBoundsTest {
         CHECK.due("a cut beyond the shears", withGame("sw3h1k1", "g?;x;g1;c0r2").missing(0, 0, -1), 0);
         CHECK.due("none missing and it can't be", withGame("sw2h1", "g0;g1").missing(0, 1, -1), 0);
         CHECK.due("none missing, nothing grown", withGame("sw2h1", "x;x;m0").missing(0, 0, 0), 0);
+        CHECK.due("none missing, what is there is cut", withGame("sw2h1;t", "x;c0r1").missing(0, 0, -1), 1);
+        CHECK.due("sixteen moves", withGame("sw2h1", "x" + ";x".repeat(13) + ";g?;m1").missing(0, 0, 0), 1);
+        CHECK.due("sixteen moves, the last missing", withGame("sw2h1x1", "x" + ";x".repeat(14) + ";g?").missing(0, 2, 0), 1);
         LawnAhead full = withGame("sw1h1;t", "g?");
         CHECK.due("no cell that may grow", full.missing(0, 1, -1), 0);
         LawnAhead won = withGame("sw3h1;tc0;tc1", "x");
@@ -215,6 +218,9 @@ public final class AheadBoundsTest {
         CHECK.refused("holds(1) when it is won", x, -1, () -> x.holds(1));
         CHECK.refused("holds(2) when it is won", x, -1, () -> x.holds(2));
         CHECK.refused("forced when it is won", x, -1, x::forced);
+        CHECK.due("by the first cell alone", Check.lawn("sw6h5;tc1;tc2;bc3").holds(1), 0);
+        CHECK.due("by the last cell alone", Check.lawn("sw6h5;tc27;tc28;bc26").holds(1), 0);
+        CHECK.due("no answer but those", Check.lawn("sw6h5k1;tc1;tc2;bc3;tc27;tc28;bc26").answers(-1), 0);
         LawnAhead none = Check.lawn("sw1h1;b");
         CHECK.due("nothing grows: one", none.holds(1), 1);
         CHECK.due("nothing grows: two", none.holds(2), 1);
@@ -300,6 +306,8 @@ public final class AheadBoundsTest {
         CHECK.due("all three must come", grown.odds(3, 50), 125000000);
         LawnAhead stays = withLaw("sw2h1q2;t", "y:d=1|d=2?1");
         CHECK.due("what stays has its day, too", stays.odds(3, 50), 750000000);
+        CHECK.due("and does not grow by a day that is over", withLaw("sw2h1q2;t", "y:d=0?1").odds(2, 50), 500000000);
+        CHECK.due("nor what has grown", withLaw("sw3h1q3;t", "y:d=0?1").odds(2, 0), 0);
         LawnAhead earth = Check.lawn("sw4h1;tc0;tc1");
         earth.mole(3);
         CHECK.due("nothing grows on earth", earth.odds(1, 0), ALL);

@@ -202,6 +202,17 @@ public final class EndBoundsTest {
         endsAre("behind growing", x);
         x.undo();
         endsAre("undone", x);
+        x.mole(2);
+        x.mole(9);
+        x.mole(10);
+        x.mole(1);
+        CHECK.due("none any more", x.count(1), 0);
+        endsAre("none any more", x);
+        LawnAhead large = grown("sw6h5q5;tc29;tc7;tc2;tc3;tc4;tc8;tc9;tc10;tc14;tc15;tc16;tc20", 21, 22, 0);
+        CHECK.due("a large one in the middle", large.winning(), HIDDEN);
+        CHECK.due("three parts", large.parts(-1), 3);
+        Check.tell(large, 0, "tc0");
+        endsAre("one small one then", large);
         LawnAhead won = grown("sw4h1q3;tc0;tc1", 2);
         CHECK.due("won", won.count(8), 1);
         endsAre("won", won);

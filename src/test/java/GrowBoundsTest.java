@@ -245,6 +245,95 @@ public final class GrowBoundsTest {
         }
     }
 
+    /** As many TUFTS as there can be: 23 without a LINE of five, eight of them AROUND each of three CELLS. */
+    private static void manyTufts() {
+        int bare = Check.bits(0, 1, 5, 9, 13, 22, 26);
+        StringBuilder lawn = new StringBuilder("sw6h5q5");
+        int told = 0;
+        for (int cell = 0; cell < 30 && told < 12; cell++) {
+            if ((bare >> cell & 1) == 0) {
+                lawn.append(";tc").append(cell);
+                told++;
+            }
+        }
+        LawnAhead x = Check.lawn(lawn.toString());
+        for (int cell = 0; cell < 30; cell++) {
+            if ((bare >> cell & 1) == 0 && x.cell(cell, 0) == 0) {
+                x.grow(cell);
+                x.sit();
+            }
+        }
+        CHECK.due("23 tufts", x.count(1), 23);
+        CHECK.due("not won", x.count(8), 0);
+        CHECK.due("room by LOW and HIGH", x.room(), 7);
+        Check.tell(x, 1, "y:t=8&o=23?1");
+        Check.tell(x, 1, "y:o-22");
+        Check.tell(x, 1, "y:o-23");
+        x.law(0);
+        CHECK.due("eight around", x.room(), 3);
+        CHECK.due("at 13", x.cell(13, 2), 1);
+        x.law(1);
+        CHECK.due("more than 22", x.room(), 7);
+        x.law(2);
+        CHECK.due("no more than 23", x.room(), 0);
+        x.law(0);
+        CHECK.due("the 24th", x.grow(22) >= 0, true);
+        x.law(2);
+        CHECK.due("more than 23", x.room(), 6);
+        CHECK.due("its bits", Integer.bitCount(x.count(15)), 24);
+    }
+
+    /** The same CELL and as many TUFTS, but not AROUND it: WORTH is that of now. */
+    private static void worthOfNow() {
+        LawnAhead x = Check.lawn("sw5h1x1;tc0");
+        Check.tell(x, 1, "y:t");
+        Check.tell(x, 1, "y:1");
+        x.law(0);
+        CHECK.due("one around", x.cell(1, 2), 1);
+        CHECK.due("none around", x.cell(3, 2), 0);
+        x.cut(0, 0, 1);
+        CHECK.due("none at all", x.room(), 0);
+        x.law(1);
+        x.grow(4);
+        x.law(0);
+        CHECK.due("none around now", x.cell(1, 2), 0);
+        CHECK.due("one around now", x.cell(3, 2), 1);
+        Check.tell(x, 0, "sw5h1;tc2;bc0");
+        CHECK.due("of another lawn", x.room(), 2);
+    }
+
+    /** "all that was of another one is gone but LAWS, which holds, GAMES, DROUGHT" */
+    private static void anotherLawn() {
+        LawnAhead x = Check.lawn("sw3h3x1;tc0;tc1;bc2");
+        Check.tell(x, 1, "y:c+1");
+        Check.tell(x, 2, "g?;m3");
+        x.law(0);
+        x.drought(33);
+        x.sit();
+        x.sit();
+        x.sit();
+        x.mole(4);
+        x.grow(8);
+        x.book(7, true);
+        x.image();
+        LawnAhead fresh = new LawnAhead();
+        Check.tell(fresh, 1, "y:c+1");
+        Check.tell(fresh, 2, "g?;m3");
+        fresh.law(0);
+        fresh.drought(33);
+        CHECK.due("thistles, earth, a book", x.count(9) + x.count(10) + x.cell(4, 0) + x.count(12), 7);
+        CHECK.due("it meant well", x.meant(), 0);
+        for (String lawn : new String[] {"sw3h3", "s", "sw2h2;t;bc3", "sw6h5q2k5l1x1;tc4"}) {
+            CHECK.due("told", Check.tell(x, 0, lawn), Check.tell(fresh, 0, lawn));
+            CHECK.due("as on an object of its own", Check.seen(x).equals(Check.seen(fresh)), true);
+            CHECK.due("no image", x.back(), -1);
+            x.sit();
+            x.mole(1);
+            x.image();
+            Check.tell(fresh, 0, "t");
+        }
+    }
+
     /** "The LAW that holds (NONE: none). False: no such one." */
     private static void lawThatHolds() {
         LawnAhead x = Check.lawn("s;t");
@@ -343,6 +432,9 @@ public final class GrowBoundsTest {
         dividing();
         conditions();
         lettersAtTheEdges();
+        manyTufts();
+        worthOfNow();
+        anotherLawn();
         lawThatHolds();
         drought();
         room();

@@ -399,6 +399,35 @@ public final class TextBoundsTest {
         CHECK.due("its last move", x.move(0, 15, 1), 29);
     }
 
+    /** A TEXT is read as if none had been read before it, by the same object. */
+    private static void oneBehindAnother() {
+        LawnAhead x = new LawnAhead();
+        String[] texts = {"b;b;b;b;b;b;b;b;b", "b", "t;t;t;t;t;t;t;t;t;t;t;t;t", "t", "bc1;bc1", "bc1", "tc1;tc1", "tc1", "s;s", "s", "tc1;bc2", "tc2;bc1",
+            "sw1h1;z", "tc19", "su0l1", "sl1", "sq2;t;tc1", "t;tc1"};
+        int[] faults = {16, -1, 24, -1, 7, -1, 7, -1, 2, -1, -1, -1, 6, -1, 5, -1, 9, -1};
+        for (int round = 0; round < 2; round++) {
+            for (int i = 0; i < texts.length; i++) {
+                Check.tape(x, texts[i]);
+                CHECK.due("fault of '" + texts[i] + "' behind others", x.fault(0), faults[i]);
+            }
+        }
+        CHECK.due("not in all 240 bytes", Check.tell(x, 0, "sw6h5"), 30);
+        for (int game = 0; game < 4; game++) {
+            Check.tape(x, "g?;g?;g?;g?;g");
+            CHECK.due("a game that is wrong", x.fault(2), 13);
+            CHECK.due("one behind it", Check.tell(x, 2, "g?"), game);
+            CHECK.due("has one missing leaf", x.missing(game, 1 << game, 0), game);
+            CHECK.due("and one move", x.move(game, 1, 0), LawnAhead.HIDDEN);
+        }
+        for (int law = 0; law < 4; law++) {
+            Check.tape(x, "y:d;y:1=2?3;y:r=");
+            CHECK.due("a law that is wrong", x.fault(1), 16);
+            CHECK.due("one behind it", Check.tell(x, 1, "y:c=" + law + "?1"), law);
+            x.law(law);
+            CHECK.due("is that one alone", x.room(), 5);
+        }
+    }
+
     /** "MOVES with ; between, 1 to 16": "the ; ahead of a 17th MOVE (is wrong)". */
     private static void sixteenMoves() {
         for (String move : new String[] {"x", "g?", "g29", "c1r5", "m0"}) {
@@ -454,6 +483,7 @@ public final class TextBoundsTest {
         sixWithinOneAnother();
         clausesOfLaws();
         fullTexts();
+        oneBehindAnother();
         sixteenMoves();
         movesThatAreNone();
         CHECK.finish();
