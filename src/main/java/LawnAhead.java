@@ -1371,13 +1371,16 @@ public final class LawnAhead {
     private static final class Sight {
         static final int MOST_CUTS = 270;
         private static final int MOST_AROUND = 8;
+        private static final int SLOTS = (MOST_AROUND + 1) * (MOST_CELLS + 1);
+        // ODDS go to and fro between the DAYS of three NIGHTS.
+        private static final int PAGES = 4;
 
         Ground ground;
         private Law law;
-        private int rememberedDay;
-        // By TUFTS AROUND and how many there are: CELLS whose WORTH was reckoned, and those where it is above 0.
-        private final int[] reckoned = new int[(MOST_AROUND + 1) * (MOST_CELLS + 1)];
-        private final int[] worthy = new int[(MOST_AROUND + 1) * (MOST_CELLS + 1)];
+        private final int[] pageDays = new int[PAGES];
+        // By the DAY, TUFTS AROUND and how many there are: CELLS whose WORTH was reckoned, and those where it is above 0.
+        private final int[] reckoned = new int[PAGES * SLOTS];
+        private final int[] worthy = new int[PAGES * SLOTS];
         private final int[] letters = new int[Law.LETTER_COUNT];
         final int[] codes = new int[MOST_CUTS];
         final int[] taken = new int[MOST_CUTS];
@@ -1390,13 +1393,18 @@ public final class LawnAhead {
         void face(Ground told, Law held) {
             ground = told;
             law = held;
-            forget(0);
-        }
-
-        private void forget(int day) {
-            rememberedDay = day;
+            Arrays.fill(pageDays, 0);
             Arrays.fill(reckoned, 0);
             Arrays.fill(worthy, 0);
+        }
+
+        private void turnTo(int page, int day) {
+            pageDays[page] = day;
+            int end = (page + 1) * SLOTS;
+            for (int slot = page * SLOTS; slot < end; slot++) {
+                reckoned[slot] = 0;
+                worthy[slot] = 0;
+            }
         }
 
         boolean grows(int cell, int tufts, int earth, int day) {
@@ -1407,11 +1415,12 @@ public final class LawnAhead {
             if (law == null) {
                 return around >= ground.rules[Ground.LOW] && around <= ground.rules[Ground.HIGH];
             }
-            if (day != rememberedDay && law.usesDay) {
-                forget(day);
+            int page = law.usesDay ? day & PAGES - 1 : 0;
+            if (law.usesDay && day != pageDays[page]) {
+                turnTo(page, day);
             }
             int many = Integer.bitCount(tufts);
-            int slot = around * (MOST_CELLS + 1) + many;
+            int slot = page * SLOTS + around * (MOST_CELLS + 1) + many;
             if (slot >= reckoned.length) {
                 return false;
             }

@@ -286,20 +286,39 @@ public final class GrowBoundsTest {
     /** The same CELL and as many TUFTS, but not AROUND it: WORTH is that of now. */
     private static void worthOfNow() {
         LawnAhead x = Check.lawn("sw5h1x1;tc0");
-        Check.tell(x, 1, "y:t");
-        Check.tell(x, 1, "y:1");
+        Check.tell(x, 1, "y:c=4?1;y:t");
         x.law(0);
         CHECK.due("one around", x.cell(1, 2), 1);
         CHECK.due("none around", x.cell(3, 2), 0);
         x.cut(0, 0, 1);
-        CHECK.due("none at all", x.room(), 0);
-        x.law(1);
+        CHECK.due("none at all", x.room(), 1);
         x.grow(4);
-        x.law(0);
         CHECK.due("none around now", x.cell(1, 2), 0);
         CHECK.due("one around now", x.cell(3, 2), 1);
         Check.tell(x, 0, "sw5h1;tc2;bc0");
-        CHECK.due("of another lawn", x.room(), 2);
+        CHECK.due("of another lawn", x.room(), 3);
+    }
+
+    /** "d the DAY": of now, as it goes on, is UNDONE and looked ahead at. */
+    private static void dayOfNow() {
+        LawnAhead x = Check.lawn("sw2h1");
+        Check.tell(x, 1, "y:d=1|d=6|d=20?1");
+        x.law(0);
+        for (int day = 0; day < 22; day++) {
+            int due = day == 1 || day == 6 || day == 20 ? 2 : 0;
+            CHECK.due("day " + day, x.room(), due);
+            x.odds(3, 50);
+            x.holds(2);
+            x.sit();
+            x.sit();
+            x.undo();
+            CHECK.due("undone, day " + day, x.room(), due);
+            x.sit();
+        }
+        x.undo();
+        x.undo();
+        x.undo();
+        CHECK.due("day 20 again", x.room(), 2);
     }
 
     /** "all that was of another one is gone but LAWS, which holds, GAMES, DROUGHT" */
@@ -434,6 +453,7 @@ public final class GrowBoundsTest {
         lettersAtTheEdges();
         manyTufts();
         worthOfNow();
+        dayOfNow();
         anotherLawn();
         lawThatHolds();
         drought();
