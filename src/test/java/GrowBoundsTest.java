@@ -319,6 +319,19 @@ public final class GrowBoundsTest {
         x.undo();
         x.undo();
         CHECK.due("day 20 again", x.room(), 2);
+        LawnAhead first = Check.lawn("sw2h1");
+        Check.tell(first, 1, "y:1-d");
+        first.law(0);
+        for (int day = 0; day < 20; day++) {
+            CHECK.due("only the first day", first.room(), day == 0 ? 2 : 0);
+            first.sit();
+            first.sit();
+        }
+        for (int day = 19; day >= 0; day--) {
+            first.undo();
+            first.undo();
+            CHECK.due("back to the first day", first.room(), day == 0 ? 2 : 0);
+        }
     }
 
     /** "all that was of another one is gone but LAWS, which holds, GAMES, DROUGHT" */
