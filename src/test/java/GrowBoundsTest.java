@@ -94,6 +94,7 @@ public final class GrowBoundsTest {
         for (String size : new String[] {"sw1h1", "sw5h4", "sw6h5", "sw6h1", "sw1h5"}) {
             LawnAhead x = Check.lawn(size);
             int cells = x.count(0);
+            String before = Check.seen(x);
             for (int what = -1; what <= 3; what++) {
                 int asked = what;
                 CHECK.dueThrows(size + " behind the last", () -> x.cell(cells, asked));
@@ -109,6 +110,7 @@ public final class GrowBoundsTest {
                 CHECK.dueThrows("what 3", () -> x.cell(at, 3));
                 CHECK.due("grass", x.cell(cell, 0) + x.cell(cell, 1) + x.cell(cell, 2), 1);
             }
+            CHECK.due(size + ": what is thrown changes nothing", Check.seen(x).equals(before), true);
         }
         LawnAhead smaller = Check.lawn("sw6h5");
         Check.tell(smaller, 0, "sw2h2");
