@@ -278,6 +278,13 @@ public final class GrowBoundsTest {
         CHECK.due("more than 22", x.room(), 7);
         x.law(2);
         CHECK.due("no more than 23", x.room(), 0);
+        Check.tell(x, 1, "y:t=8&d<9999?1");
+        x.law(3);
+        for (int day = 0; day < 5; day++) {
+            CHECK.due("eight around, by a day", x.room(), 3);
+            x.sit();
+            x.sit();
+        }
         x.law(0);
         CHECK.due("the 24th", x.grow(22) >= 0, true);
         x.law(2);

@@ -426,6 +426,11 @@ public final class TextBoundsTest {
             x.law(law);
             CHECK.due("is that one alone", x.room(), 5);
         }
+        LawnAhead y = Check.lawn("s");
+        Check.tape(y, "y:!t=1?1");
+        y.fault(1);
+        CHECK.due("a shorter law behind it", Check.tell(y, 1, "y:1+1"), 0);
+        CHECK.due("ends where it ends", y.law(0) ? y.room() : -9, 20);
     }
 
     /** "MOVES with ; between, 1 to 16": "the ; ahead of a 17th MOVE (is wrong)". */
