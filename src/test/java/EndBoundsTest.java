@@ -222,6 +222,12 @@ public final class EndBoundsTest {
         endsAre("the same bits, another width", won);
         Check.tell(won, 0, "sw3h1q4k3;tc0;tc1;tc2");
         endsAre("the same bits, other shears", won);
+        Check.tell(won, 0, "sw5h1;tc0;tc3");
+        endsAre("two small ones then", won);
+        Check.tell(won, 0, "sw5h1q5k4;tc0;tc1;tc2;tc3");
+        endsAre("a row by long shears", won);
+        Check.tell(won, 0, "sw3h2q5k1;tc0;tc1;tc2;tc3;tc4");
+        endsAre("five by short ones", won);
     }
 
     /** "WINNING: the least code .. NONE: none": a SUM of 0 has none. */
