@@ -1786,6 +1786,12 @@ public final class LawnAhead {
             if (nights < 1 || parts == 0) {
                 return 0;
             }
+            int winners = sight.ground.winners(tufts);
+            // Of the last NIGHT only what wins comes into the sum.
+            int counted = nights == 1 ? winners : sight.ground.all;
+            if (counted == 0) {
+                return 0;
+            }
             int may = sight.growing(tufts, earth, day);
             int places = Integer.bitCount(may);
             if (places == 0) {
@@ -1795,9 +1801,8 @@ public final class LawnAhead {
             long share = (parts - stay) / places;
             long last = parts - stay - share * (places - 1);
             long won = partsWon(tufts, day + 1, nights - 1, stay);
-            int winners = sight.ground.winners(tufts);
             for (int cell = 0; cell < sight.ground.cells; cell++) {
-                if ((may >> cell & 1) != 0) {
+                if ((may & counted & 1 << cell) != 0) {
                     long lot = may >> cell == 1 ? last : share;
                     boolean wins = (winners >> cell & 1) != 0;
                     won += wins ? lot : partsWon(tufts | 1 << cell, day + 1, nights - 1, lot);

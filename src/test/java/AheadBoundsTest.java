@@ -316,6 +316,37 @@ public final class AheadBoundsTest {
         CHECK.due("two ways", other.odds(1, 0), ALL / 2);
     }
 
+    private static PlainLawn plain(String lawn, String law) {
+        PlainLawn y = new PlainLawn();
+        String[] texts = {lawn, law};
+        for (int sort = 0; sort < 2; sort++) {
+            for (int from = 0; from < texts[sort].length(); from += 20) {
+                int[] n = Check.packed(texts[sort], from);
+                y.feed(n[0], n[1], n[2], n[3], n[4]);
+            }
+            if (y.text(sort) < 0) {
+                throw new IllegalArgumentException(texts[sort]);
+            }
+        }
+        y.law(0);
+        return y;
+    }
+
+    /** "each NIGHT chance by 100 of each, cut, stay as they are": three NIGHTS on lawns that are too wide for the runs by draws */
+    private static void oddsOfThreeNights() {
+        String[] lawns = {"sw6h5;tc0;tc9", "sw6h5q4;tc7;tc8;tc15;tc29;bc4", "sw5h5q2", "sw6h4q5;tc6;tc7", "sw6h5q4x1;tc24;tc19"};
+        String[] laws = {"y:1", "y:t>0|d>0?1", "y:d+c-r", "y:2-t;y:1", "y:o*2-d-t"};
+        for (int i = 0; i < lawns.length; i++) {
+            LawnAhead x = withLaw(lawns[i], laws[i]);
+            PlainLawn y = plain(lawns[i], laws[i]);
+            for (int nights = 2; nights <= 3; nights++) {
+                for (int chance : new int[] {0, 37}) {
+                    CHECK.due(lawns[i] + " " + nights + " nights at " + chance, x.odds(nights, chance), y.odds(nights, chance));
+                }
+            }
+        }
+    }
+
     /** "WHERE a MOLE: the CELL (without BED, EARTH) by which THREATS are the fewest (of several the lowest)": "NONE: no such CELL" */
     private static void where() {
         LawnAhead x = Check.lawn("sw3h1;tc0;tc1");
@@ -350,6 +381,7 @@ public final class AheadBoundsTest {
         forced();
         oddsWithinBounds();
         oddsAreCut();
+        oddsOfThreeNights();
         where();
         CHECK.finish();
     }
